@@ -40,7 +40,7 @@ public final class BindingKernel {
         framesLost = 0;
         apps = new Application[APPS];
         for (int app = 0; app < APPS; app++) {
-            apps[app] = new Application(app, disk);
+            apps[app] = new Application();
         }
     }
 
@@ -225,14 +225,14 @@ public final class BindingKernel {
             return REFUSED;
         }
         EntryTable table = apps[app].table;
-        int place = table.placeOf(key);
+        int place = table.placeOf(disk, key);
         if (place == NOTHING) {
-            return present ? table.append(key, value) : REFUSED;
+            return present ? table.append(disk, app, key, value) : REFUSED;
         }
         if (present) {
-            table.setEntry(place, key, value);
+            table.setEntry(disk, place, key, value);
         } else {
-            table.removeAt(place);
+            table.removeAt(disk, place);
         }
         return OK;
     }
@@ -242,8 +242,8 @@ public final class BindingKernel {
             return NONE;
         }
         if (apps[app].isMap) {
-            int place = apps[app].table.placeOf(key);
-            return place == NOTHING ? NONE : apps[app].table.valueAt(place);
+            int place = apps[app].table.placeOf(disk, key);
+            return place == NOTHING ? NONE : apps[app].table.valueAt(disk, place);
         }
         int block = Math.floorDiv(key, Disk.WORDS);
         if (!disk.hasBlock(block) || disk.ownerOf(block) != app) {
@@ -388,10 +388,10 @@ public final class BindingKernel {
         private int firstLink;
         private int links;
 
-        Application(int number, Disk disk) {
+        Application() {
             pagesTakenAway = new PageList();
             frames = new FrameQueue();
-            table = new EntryTable(number, disk);
+            table = new EntryTable();
             draft = new Program();
             filter = new Program();
             isOpen = false;
@@ -957,14 +957,10 @@ public final class BindingKernel {
         private static final int DATA_BLOCKS = 7;
         private static final int ENTRIES_A_BLOCK = 4;
 
-        private final int app;
-        private final Disk disk;
         private final int[] dataBlocks;
         private int length;
 
-        EntryTable(int owner, Disk home) {
-            app = owner;
-            disk = home;
+        EntryTable() {
             dataBlocks = new int[DATA_BLOCKS];
             length = 0;
         }
@@ -973,16 +969,16 @@ public final class BindingKernel {
             length = 0;
         }
 
-        int placeOf(int key) {
+        int placeOf(Disk disk, int key) {
             for (int place = 0; place < length; place++) {
-                if (keyAt(place) == key) {
+                if (keyAt(disk, place) == key) {
                     return place;
                 }
             }
             return NOTHING;
         }
 
-        int append(int key, int value) {
+        int append(Disk disk, int app, int key, int value) {
             if (length == DATA_BLOCKS * ENTRIES_A_BLOCK) {
                 return FULL;
             }
@@ -994,29 +990,29 @@ public final class BindingKernel {
                 disk.bind(block, app, 0, 0);
                 dataBlocks[length / ENTRIES_A_BLOCK] = block;
             }
+            setEntry(disk, length, key, value);
             length++;
-            setEntry(length - 1, key, value);
             return OK;
         }
 
-        void removeAt(int place) {
+        void removeAt(Disk disk, int place) {
             int last = length - 1;
-            setEntry(place, keyAt(last), valueAt(last));
+            setEntry(disk, place, keyAt(disk, last), valueAt(disk, last));
             if (last % ENTRIES_A_BLOCK == 0) {
                 disk.free(blockOf(last));
             }
             length = last;
         }
 
-        int keyAt(int place) {
+        int keyAt(Disk disk, int place) {
             return disk.wordOf(blockOf(place), keyWordOf(place));
         }
 
-        int valueAt(int place) {
+        int valueAt(Disk disk, int place) {
             return disk.wordOf(blockOf(place), keyWordOf(place) + 1);
         }
 
-        void setEntry(int place, int key, int value) {
+        void setEntry(Disk disk, int place, int key, int value) {
             disk.setWord(blockOf(place), keyWordOf(place), key);
             disk.setWord(blockOf(place), keyWordOf(place) + 1, value);
         }

@@ -6,6 +6,7 @@ final class ArriveTest {
         queueOfFour();
         lostGoesToNoOther();
         noneAccepts();
+        noneOfSixAccepts();
         queuesAreApart();
         Run.end();
     }
@@ -87,6 +88,18 @@ final class ArriveTest {
         run.push(7).due(1);
         run.arrive().due(0);
         run.got(0, -1).due(1);
+    }
+
+    private static void noneOfSixAccepts() {
+        Run run = new Run("arrive: none of six accepts", 4, 6);
+        for (int app = 0; app < 6; app++) {
+            run.openMap(app).ok();
+            run.installFirstByte(app, app);
+        }
+        run.arrive(6).refused();
+        for (int app = 5; app >= 0; app--) {
+            run.arrive(app).due(app);
+        }
     }
 
     private static void queuesAreApart() {

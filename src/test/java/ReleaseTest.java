@@ -4,6 +4,7 @@ final class ReleaseTest {
         wrongNumbers();
         onlyTheOwner();
         rightsAndNamingEnd();
+        rightsOfAllEnd();
         Run.end();
     }
 
@@ -53,5 +54,24 @@ final class ReleaseTest {
         run.tick(3).due(0);
         run.holder(0, 2).due(2);
         run.holder(2, 0).refused();
+    }
+
+    private static void rightsOfAllEnd() {
+        for (int owner = 0; owner < 6; owner++) {
+            Run run = new Run("release: rights of all to a page of " + owner, 4, 6);
+            for (int app = 0; app < 6; app++) {
+                run.openMap(app).ok();
+            }
+            run.take(owner).due(0);
+            for (int app = 0; app < 6; app++) {
+                run.share(owner, 0, app, 2).due(app == owner ? BindingKernel.REFUSED : BindingKernel.OK);
+            }
+            run.release(owner, 0).ok();
+            int nextOwner = (owner + 1) % 6;
+            run.take(nextOwner).due(0);
+            for (int app = 0; app < 6; app++) {
+                run.fetch(app, 0, 0).due(app == nextOwner ? 0 : BindingKernel.NONE);
+            }
+        }
     }
 }
