@@ -87,7 +87,6 @@ final class FaceTest {
             int modifiers = inside.getModifiers();
             Run.check(inside + " is static and not public or protected", Modifier.isStatic(modifiers)
                 && !Modifier.isPublic(modifiers) && !Modifier.isProtected(modifiers));
-            Run.check(inside + " has none inside", inside.getDeclaredClasses().length == 0);
         }
     }
 

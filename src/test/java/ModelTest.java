@@ -1,19 +1,28 @@
+import java.util.ArrayList;
+import java.util.List;
 import java.util.Random;
+import java.util.function.ToLongFunction;
 
 /**
- * Long runs of calls, drawn from fixed seeds, whose answers are those of the model. With the pictures
- * an object gets more than the 512 calls that the document speaks of; the questions change nothing.
+ * Runs of calls, drawn from fixed seeds, whose answers are those of the model. In the end everything that can be
+ * asked is asked: as an object has 512 calls, new objects are brought to the same state for the many questions.
  */
 final class ModelTest {
-    private static final int RUNS = 1000;
-    private static final int CALLS_A_RUN = 512;
-    private static final int CALLS_BETWEEN_PICTURES = 8;
+    private static final int RUNS = 2000;
+    private static final int FEWEST_CALLS = 40;
+    private static final int QUESTIONS_AN_OBJECT = 112;
+    private static final int MOST_CALLS = Run.MOST_CALLS - QUESTIONS_AN_OBJECT;
     private static final int[] ODD_NUMBERS = {
         Integer.MIN_VALUE, Integer.MIN_VALUE + 1, -65, -8, -3, -2, -1, 0, 1, 2, 3, 4, 5, 6, 7, 8, 9, 15, 16,
         17, 20, 21, 31, 32, 33, 63, 64, 99, 100, 101, 255, 256, 257, Integer.MAX_VALUE - 1, Integer.MAX_VALUE
     };
 
+    /** A call with these arguments on the kernel, and on the model. */
+    private record Call(String text, ToLongFunction<BindingKernel> onKernel, ToLongFunction<Model> onModel) { }
+
     private final Random random;
+    private final int wantedPages;
+    private final int wantedBlocks;
     private final BindingKernel kernel;
     private final Model model;
     private final int blocks;
@@ -23,7 +32,8 @@ final class ModelTest {
     private final int oddOnesIn;
     /** With few applications each comes to hold more. */
     private final int appsUsed;
-    private final StringBuilder calls = new StringBuilder();
+    private final int callsWanted;
+    private final List<Call> calls = new ArrayList<>();
     private boolean failed = false;
 
     private ModelTest(int seed) {
@@ -31,12 +41,13 @@ final class ModelTest {
         part = seed % 4;
         appsUsed = 1 + seed / 4 % 6;
         oddOnesIn = 4 + random.nextInt(60);
-        int wantedPages = random.nextInt(40) - 2;
-        int wantedBlocks = random.nextInt(40) - 2;
+        wantedPages = random.nextInt(40) - 2;
+        wantedBlocks = random.nextInt(40) - 2;
+        callsWanted = FEWEST_CALLS + random.nextInt(MOST_CALLS - FEWEST_CALLS + 1);
         kernel = new BindingKernel(wantedPages, wantedBlocks);
         model = new Model(wantedPages, wantedBlocks);
-        pages = kernel.count(0, 0);
-        blocks = kernel.count(1, 0);
+        pages = model.count(0, 0);
+        blocks = model.count(1, 0);
     }
 
     public static void main(String[] args) {
@@ -51,39 +62,51 @@ final class ModelTest {
         for (int i = 0; i < 8; i++) {
             openOne();
         }
-        for (int i = 8; i < CALLS_A_RUN && !failed; i++) {
+        while (calls.size() < callsWanted && !failed) {
             call();
-            if (i % CALLS_BETWEEN_PICTURES == 0) {
-                comparePictures();
-            }
         }
-        if (failed) {
-            System.out.println(calls);
+        List<Call> questions = questions();
+        for (int begin = 0; begin < questions.size() && !failed; begin += QUESTIONS_AN_OBJECT) {
+            ask(questions.subList(begin, Math.min(questions.size(), begin + QUESTIONS_AN_OBJECT)));
         }
         return !failed;
     }
 
-    private void due(long got, long wanted, String call, Object... arguments) {
-        write(got, call, arguments);
-        if (got != wanted) {
-            calls.append("due is ").append(wanted).append('\n');
+    private void ask(List<Call> questions) {
+        BindingKernel again = new BindingKernel(wantedPages, wantedBlocks);
+        for (Call call : calls) {
+            call.onKernel.applyAsLong(again);
+        }
+        for (Call question : questions) {
+            compare(question, question.onKernel.applyAsLong(again), question.onModel.applyAsLong(model));
+        }
+    }
+
+    private void compare(Call call, long got, long due) {
+        if (got != due && !failed) {
             failed = true;
+            System.out.println("new BindingKernel(" + wantedPages + ", " + wantedBlocks + ")");
+            calls.forEach(each -> System.out.println(each.text));
+            System.out.println(call.text + " answered " + got + ", due is " + due);
         }
     }
 
-    /** What is asked for a picture is so much that only a wrong answer is written down. */
-    private void duePicture(long got, long wanted, String call, Object... arguments) {
-        if (got != wanted) {
-            due(got, wanted, call, arguments);
-        }
-    }
-
-    private void write(long got, String call, Object... arguments) {
-        calls.append(call);
+    private static Call make(ToLongFunction<BindingKernel> onKernel, ToLongFunction<Model> onModel,
+            String name, Object... arguments) {
+        StringBuilder text = new StringBuilder(name);
         for (Object argument : arguments) {
-            calls.append(' ').append(argument);
+            text.append(' ').append(argument);
         }
-        calls.append(": ").append(got).append('\n');
+        return new Call(text.toString(), onKernel, onModel);
+    }
+
+    private void due(ToLongFunction<BindingKernel> onKernel, ToLongFunction<Model> onModel,
+            String name, Object... arguments) {
+        if (calls.size() < callsWanted) {
+            Call call = make(onKernel, onModel, name, arguments);
+            calls.add(call);
+            compare(call, onKernel.applyAsLong(kernel), onModel.applyAsLong(model));
+        }
     }
 
     /** A number of least .. greatest, or now and then any other. */
@@ -107,7 +130,7 @@ final class ModelTest {
         if (choice == 0) {
             openOrClose();
         } else if (choice == 1) {
-            ask();
+            askOne();
         } else {
             switch (part == 3 ? random.nextInt(3) : part) {
                 case 0 -> pageCall();
@@ -120,7 +143,7 @@ final class ModelTest {
     private void openOrClose() {
         if (random.nextInt(5) == 0) {
             int a = app();
-            due(kernel.close(a), model.close(a), "close", a);
+            due(k -> k.close(a), m -> m.close(a), "close", a);
         } else {
             openOne();
         }
@@ -131,16 +154,16 @@ final class ModelTest {
         boolean map = random.nextBoolean();
         int first = number(0, 7);
         int count = number(0, 8 - Math.max(0, Math.min(7, first)));
-        due(kernel.open(a, map, first, count), model.open(a, map, first, count), "open", a, map, first, count);
+        due(k -> k.open(a, map, first, count), m -> m.open(a, map, first, count), "open", a, map, first, count);
     }
 
-    private void ask() {
+    private void askOne() {
         int kind = number(0, 7);
         int place = number(0, kind < 2 ? 31 : 7);
-        due(kernel.holder(kind, place), model.holder(kind, place), "holder", kind, place);
+        due(k -> k.holder(kind, place), m -> m.holder(kind, place), "holder", kind, place);
         int what = number(0, 8);
         int a = app();
-        due(kernel.count(what, a), model.count(what, a), "count", what, a);
+        due(k -> k.count(what, a), m -> m.count(what, a), "count", what, a);
     }
 
     private void pageCall() {
@@ -151,20 +174,20 @@ final class ModelTest {
         int n = number(1, 8);
         int delay = number(1, 20);
         switch (random.nextInt(12)) {
-            case 0, 1, 2, 3 -> due(kernel.take(a), model.take(a), "take", a);
-            case 4 -> due(kernel.release(a, page), model.release(a, page), "release", a, page);
+            case 0, 1, 2, 3 -> due(k -> k.take(a), m -> m.take(a), "take", a);
+            case 4 -> due(k -> k.release(a, page), m -> m.release(a, page), "release", a, page);
             case 5, 6 -> {
                 int to = app();
                 int right = number(0, 2);
-                due(kernel.share(a, page, to, right), model.share(a, page, to, right), "share", a, page, to, right);
+                due(k -> k.share(a, page, to, right), m -> m.share(a, page, to, right), "share", a, page, to, right);
             }
-            case 7, 8 -> due(kernel.store(a, page, word, value), model.store(a, page, word, value),
+            case 7, 8 -> due(k -> k.store(a, page, word, value), m -> m.store(a, page, word, value),
                 "store", a, page, word, value);
-            case 9 -> due(kernel.fetch(a, page, word), model.fetch(a, page, word), "fetch", a, page, word);
-            case 10 -> due(kernel.revoke(a, n, delay), model.revoke(a, n, delay), "revoke", a, n, delay);
+            case 9 -> due(k -> k.fetch(a, page, word), m -> m.fetch(a, page, word), "fetch", a, page, word);
+            case 10 -> due(k -> k.revoke(a, n, delay), m -> m.revoke(a, n, delay), "revoke", a, n, delay);
             default -> {
                 int time = number(1, random.nextInt(6) == 0 ? 100 : 8);
-                due(kernel.tick(time), model.tick(time), "tick", time);
+                due(k -> k.tick(time), m -> m.tick(time), "tick", time);
             }
         }
     }
@@ -176,9 +199,9 @@ final class ModelTest {
             case 2, 3, 4 -> frameArrives();
             case 5, 6 -> {
                 int i = number(-1, 5);
-                due(kernel.got(a, i), model.got(a, i), "got", a, i);
+                due(k -> k.got(a, i), m -> m.got(a, i), "got", a, i);
             }
-            default -> due(kernel.next(a), model.next(a), "next", a);
+            default -> due(k -> k.next(a), m -> m.next(a), "next", a);
         }
     }
 
@@ -188,13 +211,14 @@ final class ModelTest {
             boolean isLast = i + 1 == length;
             int code = isLast ? number(10, 11) : number(0, random.nextInt(6) == 0 ? 11 : 9);
             int room = Math.max(1, Math.min(15, length - i - 2) + 1);
-            int k = code <= 1 ? number(0, 6) : random.nextInt(3) == 0 ? anyInt() : number(0, 31);
+            int operand = code <= 1 ? number(0, 6) : random.nextInt(3) == 0 ? anyInt() : number(0, 31);
             int yes = number(0, room - 1);
             int no = number(0, room - 1);
-            due(kernel.op(a, code, k, yes, no), model.op(a, code, k, yes, no), "op", a, code, k, yes, no);
+            due(k -> k.op(a, code, operand, yes, no), m -> m.op(a, code, operand, yes, no),
+                "op", a, code, operand, yes, no);
         }
         if (random.nextInt(10) > 0) {
-            due(kernel.install(a), model.install(a), "install", a);
+            due(k -> k.install(a), m -> m.install(a), "install", a);
         }
     }
 
@@ -202,9 +226,9 @@ final class ModelTest {
         int length = random.nextInt(10) == 0 ? 17 : random.nextInt(8);
         for (int i = 0; i < length; i++) {
             int value = number(0, random.nextBoolean() ? 5 : 255);
-            due(kernel.push(value), model.push(value), "push", value);
+            due(k -> k.push(value), m -> m.push(value), "push", value);
         }
-        due(kernel.arrive(), model.arrive(), "arrive");
+        due(k -> k.arrive(), m -> m.arrive(), "arrive");
     }
 
     private void blockCall() {
@@ -212,14 +236,20 @@ final class ModelTest {
         int key = number(0, 40);
         int value = random.nextInt(3) == 0 ? anyInt() : number(-1, blocks - 1);
         switch (random.nextInt(4)) {
-            case 0, 1 -> writeSome(a, value);
+            case 0, 1 -> {
+                int block = likelyOwn(1, blocks, a);
+                int word = number(0, 7);
+                due(k -> k.write(a, block, word, value), m -> m.write(a, block, word, value),
+                    "write", a, block, word, value);
+            }
             case 2 -> {
                 boolean present = random.nextInt(4) > 0;
-                due(kernel.put(a, key, value, present), model.put(a, key, value, present), "put", a, key, value, present);
+                due(k -> k.put(a, key, value, present), m -> m.put(a, key, value, present),
+                    "put", a, key, value, present);
             }
             default -> {
                 int asked = random.nextBoolean() ? key : number(0, 8 * blocks);
-                due(kernel.get(a, asked), model.get(a, asked), "get", a, asked);
+                due(k -> k.get(a, asked), m -> m.get(a, asked), "get", a, asked);
             }
         }
     }
@@ -234,33 +264,39 @@ final class ModelTest {
         return drawn;
     }
 
-    private void writeSome(int a, int value) {
-        int block = likelyOwn(1, blocks, a);
-        int word = number(0, 7);
-        due(kernel.write(a, block, word, value), model.write(a, block, word, value), "write", a, block, word, value);
-    }
-
     /** Everything that can be asked without changing anything. */
-    private void comparePictures() {
+    private List<Call> questions() {
+        List<Call> all = new ArrayList<>();
         for (int kind = 0; kind < 8; kind++) {
             for (int place = 0; place < (kind < 2 ? 32 : 8); place++) {
-                duePicture(kernel.holder(kind, place), model.holder(kind, place), "holder", kind, place);
+                int asked = kind;
+                int number = place;
+                all.add(make(k -> k.holder(asked, number), m -> m.holder(asked, number), "holder", asked, number));
             }
         }
-        for (int a = 0; a < 6; a++) {
-            for (int what = 0; what <= 8; what++) {
-                duePicture(kernel.count(what, a), model.count(what, a), "count", what, a);
-            }
-            for (int i = -1; i <= 16; i++) {
-                duePicture(kernel.got(a, i), model.got(a, i), "got", a, i);
-            }
-            for (int key = -1; key <= 8 * blocks; key++) {
-                duePicture(kernel.get(a, key), model.get(a, key), "get", a, key);
-            }
-            for (int place = 0; place < pages * 4; place++) {
-                duePicture(kernel.fetch(a, place / 4, place % 4), model.fetch(a, place / 4, place % 4),
-                    "fetch", a, place / 4, place % 4);
-            }
+        for (int app = 0; app < 6; app++) {
+            questionsOf(app, all);
+        }
+        return all;
+    }
+
+    private void questionsOf(int a, List<Call> all) {
+        for (int each = 0; each <= 8; each++) {
+            int what = each;
+            all.add(make(k -> k.count(what, a), m -> m.count(what, a), "count", what, a));
+        }
+        for (int each = -1; each <= 16; each++) {
+            int i = each;
+            all.add(make(k -> k.got(a, i), m -> m.got(a, i), "got", a, i));
+        }
+        for (int each = -1; each <= 8 * blocks; each++) {
+            int key = each;
+            all.add(make(k -> k.get(a, key), m -> m.get(a, key), "get", a, key));
+        }
+        for (int each = 0; each < pages * 4; each++) {
+            int page = each / 4;
+            int word = each % 4;
+            all.add(make(k -> k.fetch(a, page, word), m -> m.fetch(a, page, word), "fetch", a, page, word));
         }
     }
 }

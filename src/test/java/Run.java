@@ -1,13 +1,21 @@
+import java.util.ArrayList;
+import java.util.List;
+
 /**
  * A run of calls on one new kernel. Every call is made through a method of the same name, whose
  * answer is looked at with {@link #due}; {@link #end} ends the program with 1 if one was wrong.
  */
 final class Run {
+    /** What an object answers after so many calls is free, so no test may ask for more. */
+    static final int MOST_CALLS = 512;
+
     private static int answersLookedAt = 0;
     private static int wrongAnswers = 0;
 
     private final String name;
     private final BindingKernel kernel;
+    private final List<String> history = new ArrayList<>();
+    private String detail = "";
     private String lastCall;
     private long lastAnswer;
 
@@ -31,28 +39,40 @@ final class Run {
         }
     }
 
-    void due(long wanted) {
+    /** Says which of many like runs this is. */
+    Run of(String which) {
+        detail = ", " + which;
+        return this;
+    }
+
+    /** Every call so far with its answer. */
+    List<String> history() {
+        return history;
+    }
+
+    Run due(long wanted) {
         answersLookedAt++;
         if (lastAnswer != wanted) {
             wrongAnswers++;
-            System.out.println(name + ": " + lastCall + " answered " + lastAnswer + ", due is " + wanted);
+            System.out.println(name + detail + ": " + lastCall + " answered " + lastAnswer + ", due is " + wanted);
         }
+        return this;
     }
 
-    void ok() {
-        due(BindingKernel.OK);
+    Run ok() {
+        return due(BindingKernel.OK);
     }
 
-    void refused() {
-        due(BindingKernel.REFUSED);
+    Run refused() {
+        return due(BindingKernel.REFUSED);
     }
 
-    void full() {
-        due(BindingKernel.FULL);
+    Run full() {
+        return due(BindingKernel.FULL);
     }
 
-    void none() {
-        due(BindingKernel.NONE);
+    Run none() {
+        return due(BindingKernel.NONE);
     }
 
     private Run answer(long answer, String call, Object... arguments) {
@@ -62,6 +82,10 @@ final class Run {
         }
         lastCall = text.append(')').toString();
         lastAnswer = answer;
+        history.add(lastCall + ": " + answer);
+        if (history.size() > MOST_CALLS) {
+            check(name + detail + " has at most " + MOST_CALLS + " calls", false);
+        }
         return this;
     }
 
@@ -74,6 +98,16 @@ final class Run {
         return open(app, true, 0, 0);
     }
 
+    void openMaps(int from, int to) {
+        for (int app = from; app <= to; app++) {
+            openMap(app).ok();
+        }
+    }
+
+    Run openRaw(int app, int first, int count) {
+        return open(app, false, first, count);
+    }
+
     Run close(int app) {
         return answer(kernel.close(app), "close", app);
     }
@@ -84,7 +118,7 @@ final class Run {
 
     void takeTimes(int app, int times) {
         for (int i = 0; i < times; i++) {
-            kernel.take(app);
+            take(app);
         }
     }
 
@@ -151,9 +185,16 @@ final class Run {
     /** Lets a frame of these bytes arrive. */
     Run arrive(int... bytes) {
         for (int value : bytes) {
-            kernel.push(value);
+            push(value);
         }
         return arrive();
+    }
+
+    /** Lets four frames of the one byte arrive, all for the application. */
+    void fillQueue(int app, int value) {
+        for (int i = 0; i < 4; i++) {
+            arrive(value).due(app);
+        }
     }
 
     Run got(int app, int i) {
