@@ -472,8 +472,8 @@ final class CallTerms {
         refused(run -> run.store(0, 0, 4, 99));
         refused(run -> run.store(0, 1, -1, 99));
         refused(run -> run.store(0, PAGES - 1, 0, 99));
-        refused(run -> run.revoke(0, 0, 1));
-        refused(run -> run.revoke(0, 9, 1));
+        refused(run -> run.revoke(1, 0, 1));
+        refused(run -> run.revoke(1, 9, 1));
         refused(run -> run.revoke(1, 1, 0));
         refused(run -> run.revoke(1, 1, 21));
         refused(run -> run.tick(0));

@@ -165,6 +165,22 @@ final class CountTest {
         run.tick(2).due(2);
         run.count(4, 0).due(0);
         run.count(4, 1).due(1);
+        namedFirstAndLastPage();
+    }
+
+    private static void namedFirstAndLastPage() {
+        Run run = DOC.run("4: its NAMED pages;", 4, 4).of("the first and the last page");
+        run.openMap(0).ok();
+        run.takeTimes(0, 4);
+        run.revoke(0, 1, 9).due(1);
+        run.count(4, 0).due(1);
+        run.release(0, 0).ok();
+        run.take(0).due(0);
+        run.revoke(0, 1, 5).due(1);
+        run.count(4, 0).due(2);
+        run.tick(5).due(1);
+        run.holder(2, 0).due(0);
+        run.count(4, 0).due(1);
     }
 
     private static void frames() {

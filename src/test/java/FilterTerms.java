@@ -93,15 +93,19 @@ final class FilterTerms {
         opened.op(0, 10, 1).due(0);
 
         Run one = doc.run("and one filter or none.", 4, 4);
-        one.openMap(0).ok();
+        one.openMaps(0, 1);
         one.count(7, 0).due(0);
         one.installFirstByte(0, 1);
         one.installFirstByte(0, 2);
+        one.installAcceptAll(1);
         one.count(7, 0).due(1);
-        one.arrive(1).refused();
+        one.count(7, 1).due(2);
+        one.arrive(1).due(1);
         one.arrive(2).due(0);
         one.install(0).ok();
-        one.arrive(2).refused();
+        one.count(7, 0).due(0);
+        one.count(7, 1).due(1);
+        one.arrive(2).due(1);
     }
 
     private void beginsWithZeros() {

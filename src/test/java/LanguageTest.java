@@ -57,7 +57,8 @@ final class LanguageTest {
         for (int i = 0; i < lines.length; i++) {
             String indent = lines[i].replaceAll("\\S.*", "");
             boolean isMethod = (indent.length() == 4 || indent.length() == 8)
-                && lines[i].matches("\\s+[\\w\\[\\] ]+\\([^;]*\\) \\{") && !lines[i].matches("\\s+(if|for|while|switch)\\b.*");
+                && lines[i].matches("\\s+[\\w\\[\\] ]+\\([^;]*\\) \\{")
+                && !lines[i].matches("\\s+(if|for|while|switch)\\b.*");
             int end = i;
             while (isMethod && end < lines.length - 1 && !lines[end].equals(indent + "}")) {
                 end++;

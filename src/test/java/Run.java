@@ -1,5 +1,6 @@
 import java.util.ArrayList;
 import java.util.List;
+import java.util.function.LongSupplier;
 
 /**
  * A run of calls on one new kernel. Every call is made through a method of the same name, whose
@@ -8,6 +9,9 @@ import java.util.List;
 final class Run {
     /** What an object answers after so many calls is free, so no test may ask for more. */
     static final int MOST_CALLS = 512;
+
+    private static final long NO_ANSWER = Long.MIN_VALUE;
+    private static final long LONGEST_TEST_IN_MILLISECONDS = 300_000;
 
     private static int answersLookedAt = 0;
     private static int wrongAnswers = 0;
@@ -18,6 +22,23 @@ final class Run {
     private String detail = "";
     private String lastCall;
     private long lastAnswer;
+
+    static {
+        Thread watch = new Thread(Run::endATestThatDoesNotEnd);
+        watch.setDaemon(true);
+        watch.start();
+    }
+
+    /** No call may fail to end; without this one that does would keep .ci/run waiting for ever. */
+    private static void endATestThatDoesNotEnd() {
+        try {
+            Thread.sleep(LONGEST_TEST_IN_MILLISECONDS);
+        } catch (InterruptedException e) {
+            return;
+        }
+        System.out.println("a call did not end");
+        Runtime.getRuntime().halt(1);
+    }
 
     Run(String name, int pages, int blocks) {
         this.name = name;
@@ -75,14 +96,20 @@ final class Run {
         return due(BindingKernel.NONE);
     }
 
-    private Run answer(long answer, String call, Object... arguments) {
-        StringBuilder text = new StringBuilder(call).append('(');
+    /** A call that throws has a wrong answer, and the run goes on. */
+    private Run answer(LongSupplier call, String called, Object... arguments) {
+        StringBuilder text = new StringBuilder(called).append('(');
         for (int i = 0; i < arguments.length; i++) {
             text.append(i == 0 ? "" : ", ").append(arguments[i]);
         }
         lastCall = text.append(')').toString();
-        lastAnswer = answer;
-        history.add(lastCall + ": " + answer);
+        try {
+            lastAnswer = call.getAsLong();
+        } catch (RuntimeException thrown) {
+            lastAnswer = NO_ANSWER;
+            check(name + detail + ": " + lastCall + " threw " + thrown + ", which no call may do", false);
+        }
+        history.add(lastCall + ": " + lastAnswer);
         if (history.size() > MOST_CALLS) {
             check(name + detail + " has at most " + MOST_CALLS + " calls", false);
         }
@@ -90,7 +117,7 @@ final class Run {
     }
 
     Run open(int app, boolean map, int first, int count) {
-        return answer(kernel.open(app, map, first, count), "open", app, map, first, count);
+        return answer(() -> kernel.open(app, map, first, count), "open", app, map, first, count);
     }
 
     /** Opens a map. */
@@ -109,11 +136,11 @@ final class Run {
     }
 
     Run close(int app) {
-        return answer(kernel.close(app), "close", app);
+        return answer(() -> kernel.close(app), "close", app);
     }
 
     Run take(int app) {
-        return answer(kernel.take(app), "take", app);
+        return answer(() -> kernel.take(app), "take", app);
     }
 
     void takeTimes(int app, int times) {
@@ -123,31 +150,31 @@ final class Run {
     }
 
     Run release(int app, int page) {
-        return answer(kernel.release(app, page), "release", app, page);
+        return answer(() -> kernel.release(app, page), "release", app, page);
     }
 
     Run share(int app, int page, int to, int right) {
-        return answer(kernel.share(app, page, to, right), "share", app, page, to, right);
+        return answer(() -> kernel.share(app, page, to, right), "share", app, page, to, right);
     }
 
     Run store(int app, int page, int word, int value) {
-        return answer(kernel.store(app, page, word, value), "store", app, page, word, value);
+        return answer(() -> kernel.store(app, page, word, value), "store", app, page, word, value);
     }
 
     Run fetch(int app, int page, int word) {
-        return answer(kernel.fetch(app, page, word), "fetch", app, page, word);
+        return answer(() -> kernel.fetch(app, page, word), "fetch", app, page, word);
     }
 
     Run revoke(int app, int n, int delay) {
-        return answer(kernel.revoke(app, n, delay), "revoke", app, n, delay);
+        return answer(() -> kernel.revoke(app, n, delay), "revoke", app, n, delay);
     }
 
     Run tick(int n) {
-        return answer(kernel.tick(n), "tick", n);
+        return answer(() -> kernel.tick(n), "tick", n);
     }
 
     Run op(int app, int code, int k, int yes, int no) {
-        return answer(kernel.op(app, code, k, yes, no), "op", app, code, k, yes, no);
+        return answer(() -> kernel.op(app, code, k, yes, no), "op", app, code, k, yes, no);
     }
 
     /** An instruction whose jumps are not looked at. */
@@ -156,7 +183,7 @@ final class Run {
     }
 
     Run install(int app) {
-        return answer(kernel.install(app), "install", app);
+        return answer(() -> kernel.install(app), "install", app);
     }
 
     /** Installs a filter that accepts every frame. */
@@ -175,11 +202,11 @@ final class Run {
     }
 
     Run push(int value) {
-        return answer(kernel.push(value), "push", value);
+        return answer(() -> kernel.push(value), "push", value);
     }
 
     Run arrive() {
-        return answer(kernel.arrive(), "arrive");
+        return answer(() -> kernel.arrive(), "arrive");
     }
 
     /** Lets a frame of these bytes arrive. */
@@ -198,19 +225,19 @@ final class Run {
     }
 
     Run got(int app, int i) {
-        return answer(kernel.got(app, i), "got", app, i);
+        return answer(() -> kernel.got(app, i), "got", app, i);
     }
 
     Run next(int app) {
-        return answer(kernel.next(app), "next", app);
+        return answer(() -> kernel.next(app), "next", app);
     }
 
     Run write(int app, int block, int word, int value) {
-        return answer(kernel.write(app, block, word, value), "write", app, block, word, value);
+        return answer(() -> kernel.write(app, block, word, value), "write", app, block, word, value);
     }
 
     Run put(int app, int key, int value, boolean present) {
-        return answer(kernel.put(app, key, value, present), "put", app, key, value, present);
+        return answer(() -> kernel.put(app, key, value, present), "put", app, key, value, present);
     }
 
     Run put(int app, int key, int value) {
@@ -229,14 +256,14 @@ final class Run {
     }
 
     Run get(int app, int key) {
-        return answer(kernel.get(app, key), "get", app, key);
+        return answer(() -> kernel.get(app, key), "get", app, key);
     }
 
     Run holder(int kind, int number) {
-        return answer(kernel.holder(kind, number), "holder", kind, number);
+        return answer(() -> kernel.holder(kind, number), "holder", kind, number);
     }
 
     Run count(int what, int app) {
-        return answer(kernel.count(what, app), "count", what, app);
+        return answer(() -> kernel.count(what, app), "count", what, app);
     }
 }
